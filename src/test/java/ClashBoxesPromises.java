@@ -129,6 +129,11 @@ public final class ClashBoxesPromises {
             int at = i;
             due("box " + i, i, () -> c.box(0, at * 10, 0, 0, 5, 5, 5));
         }
+        due("hull(59, 0, 0)", 590, () -> c.hull(59, 0, 0));
+        due("pair(59, 58)", 0, () -> c.pair(59, 58));
+        due("groups() of 60 parts", 0, () -> c.groups());
+        due("the 60th in all", -1, () -> c.inside(-2000, -2000, -2000, 2000, 2000, 2000, 60));
+        due("shift(59) of 60 parts", 0, () -> c.shift(59, 0, 1000));
         refused(c, "a 61st box", STATE, () -> c.box(0, 0, 0, 0, 1, 1, 1));
         argument(c, "a wrong 61st box", () -> c.box(0, 0, 0, 0, 1, 1, 0));
         c.drop(59);
@@ -358,6 +363,7 @@ public final class ClashBoxesPromises {
             pairOf("corner and the box's margin" + along, 1, withMargins(boxAndTube(axis, 100, 113, 114, 5), 1, 0));
             // Grown by 6 the box has its corner at 116, 4 and 4 from the centre: 32 is less than 36.
             pairOf("a grown box is no round one" + along, 1, withMargins(boxAndTube(axis, 100, 120, 120, 6), 6, 0));
+            pairOf("a grown box keeps the tube's radius" + along, 0, withMargins(boxAndTube(axis, 100, 122, 105, 6), 6, 0));
             // Grown by 6 the tube's radius is 12, and its centre 10 and 10 from the corner: 200 is more than 144.
             pairOf("a grown tube is round" + along, 0, withMargins(boxAndTube(axis, 100, 120, 120, 6), 0, 6));
             pairOf("a grown tube's ends" + along, 1, withMargins(boxAndTube(axis, 113, 105, 105, 6), 0, 4));
@@ -446,6 +452,8 @@ public final class ClashBoxesPromises {
         }
         due("clashes(2) of all", 1770, () -> full.clashes(2));
         due("the last of all", "58 59", () -> full.clash(2, 1769, 0) + " " + full.clash(2, 1769, 1));
+        due("group(59) of all", 0, () -> full.group(59));
+        due("shift(0) of all", 10, () -> full.shift(0, 0, 1000));
         due("past the last of all", -1, () -> full.clash(2, 1770, 0));
     }
 
@@ -502,6 +510,9 @@ public final class ClashBoxesPromises {
         due("soft pairs make no group", 1, () -> c.groups());
         c.drop(2);
         due("none of more than one", 0, () -> c.groups());
+        ClashBoxes neighbours = small();
+        due("groups() of 0 and 1", 1, () -> neighbours.groups());
+        due("group(1)", 0, () -> neighbours.group(1));
     }
 
     private static void group() {
@@ -565,6 +576,15 @@ public final class ClashBoxesPromises {
         due("a touch of it", -1, () -> c.inside(-1, -200, 199, 0, -199, 200, 0));
         due("a touch of its side", -1, () -> c.inside(0, -201, 199, 1, -200, 200, 0));
         due("a touch along 2", -1, () -> c.inside(0, 0, 200, 1, 1, 201, 0));
+        due("in the far box", 3, () -> c.inside(900, 900, 900, 901, 901, 901, 0));
+        due("past the far box along 0", -1, () -> c.inside(899, 900, 900, 900, 901, 901, 0));
+        due("past the far box along 1", -1, () -> c.inside(900, 899, 900, 901, 900, 901, 0));
+        due("past the far box along 2", -1, () -> c.inside(900, 900, 899, 901, 901, 900, 0));
+        due("above the far box along 1", -1, () -> c.inside(900, 1000, 900, 901, 1001, 901, 0));
+        due("above the far box along 2", -1, () -> c.inside(900, 900, 1000, 901, 901, 1001, 0));
+        c.box(0, 300, 400, 500, 10, 10, 10);
+        due("each axis has its own numbers", 5, () -> c.inside(300, 400, 500, 310, 410, 510, 0));
+        c.drop(5);
         due("the soft space does not count", -1, () -> c.inside(126, 110, 110, 127, 111, 111, 0));
         c.drop(1);
         due("all, 1st behind a drop", 2, () -> c.inside(-2000, -2000, -2000, 2000, 2000, 2000, 1));
@@ -591,6 +611,8 @@ public final class ClashBoxesPromises {
         due("none at all", -10000, () -> c.shift(0, 0, 0));
         due("of two as short the upper", 10, () -> c.shift(0, 1, 1000));
         due("the other part", 5, () -> c.shift(1, 0, 1000));
+        due("the other part, just enough", 5, () -> c.shift(1, 0, 5));
+        due("the other part, not enough", -10000, () -> c.shift(1, 0, 4));
         c.box(2, 490, 500, 500, 6, 10, 10);
         due("past the next one down", 15, () -> c.shift(0, 0, 1000));
         due("nothing has moved", 500, () -> c.hull(0, 0, 0));
@@ -600,6 +622,7 @@ public final class ClashBoxesPromises {
         due("a dropped part does not hinder", 0, () -> c.shift(0, 0, 1000));
         shiftAtTheEnds();
         shiftOfTubes();
+        shiftBesideTouches();
         wrongShifts();
     }
 
@@ -637,6 +660,52 @@ public final class ClashBoxesPromises {
         c.tube(3, 0, 490, 20, 500, 140, 10);
         due("crossed tubes by their hulls", 20, () -> c.shift(3, 2, 1000));
         due("a box past a tube's round", -2, () -> c.shift(2, 0, 1000));
+    }
+
+    /** Part 0 must leave part 1; part 2, beside its way, only touches what it passes. */
+    private static ClashBoxes passing() {
+        ClashBoxes c = new ClashBoxes();
+        c.box(0, 500, 500, 500, 10, 10, 10);
+        c.box(1, 500, 500, 500, 10, 10, 10);
+        return c;
+    }
+
+    private static void shiftBesideTouches() {
+        for (int side = 1; side < 3; side++) {
+            ClashBoxes c = passing();
+            c.box(2, 510, side == 1 ? 510 : 500, side == 2 ? 510 : 500, 10, 10, 10);
+            due("a box beside the way across " + side, 10, () -> c.shift(0, 0, 1000));
+            c.move(2, side, -1);
+            due("a box in the way across " + side, -10, () -> c.shift(0, 0, 1000));
+        }
+        ClashBoxes beside = passing();
+        beside.box(2, 510, 510, 500, 10, 10, 10);
+        due("a box beside the way along 1", 10, () -> beside.shift(0, 1, 1000));
+        beside.move(2, 0, -1);
+        due("a box in the way along 1", -10, () -> beside.shift(0, 1, 1000));
+        ClashBoxes along = passing();
+        along.tube(2, 0, 512, 10, 513, 514, 5);
+        due("a tube along the way, that touches", 10, () -> along.shift(0, 0, 1000));
+        along.move(2, 1, -1);
+        due("a tube along the way, nearer", -10, () -> along.shift(0, 0, 1000));
+        ClashBoxes across = passing();
+        across.tube(2, 1, 510, 10, 512, 505, 5);
+        due("a tube across the way, that touches", 10, () -> across.shift(0, 0, 1000));
+        across.move(2, 1, -1);
+        due("a tube across the way", -10, () -> across.shift(0, 0, 1000));
+        due("the tube, the shorter way", 3, () -> across.shift(2, 0, 1000));
+        across.move(2, 0, 3);
+        across.drop(1);
+        due("a box that meets no tube yet", 0, () -> across.shift(0, 0, 1000));
+        across.move(2, 0, -14);
+        due("a box past a tube to greater numbers", 6, () -> across.shift(0, 0, 1000));
+        across.move(2, 2, 10);
+        due("a tube as far as its radius", 0, () -> across.shift(0, 0, 1000));
+        across.drop(2);
+        across.tube(3, 1, 500, 10, 501, 505, 1);
+        due("a box past the thinnest tube", 2, () -> across.shift(0, 0, 1000));
+        across.move(3, 0, -1);
+        due("a box with the thinnest tube in its edge", 1, () -> across.shift(0, 0, 1000));
     }
 
     private static void wrongShifts() {
