@@ -226,7 +226,7 @@ public final class ClashBoxes {
     public int shift(int part, int axis, int most) throws IllegalArgumentException {
         Part p = partAt(part);
         need(isAxis(axis) && isWithin(most, 0, SPACE));
-        int blocks = findBlocks(p, axis);
+        int blocks = findBlocks(p, part, axis);
         int up = freeShift(blocks, true);
         int down = freeShift(blocks, false);
         boolean upDoes = up <= most && p.staysInSpace(axis, up);
@@ -315,12 +315,10 @@ public final class ClashBoxes {
         if (meet(p, 0, q)) {
             return HARD;
         }
-        return softlyMeets(p, q) || softlyMeets(q, p) ? SOFT : APART;
-    }
-
-    /** Asked only of parts that do not meet, so a part without soft space need not be tried again. */
-    private static boolean softlyMeets(Part p, Part q) {
-        return p.softSpace > 0 && meet(p, p.softSpace, q);
+        // Grown by 0 a part is what it was, and that does not meet the other.
+        boolean soft = (p.softSpace > 0 && meet(p, p.softSpace, q))
+            || (q.softSpace > 0 && meet(q, q.softSpace, p));
+        return soft ? SOFT : APART;
     }
 
     /** Whether p, grown by m, meets q. */
@@ -426,12 +424,13 @@ public final class ClashBoxes {
     // Shifts. No part has a hollow along an axis, so each other part blocks one unbroken run of
     // shifts, and the shortest free one is 0 or lies just beyond the end of such a run.
 
-    /** Notes the runs of shifts of p along an axis that others block: how many there are. */
-    private int findBlocks(Part p, int axis) {
+    /** Notes the runs of shifts of p, by its number, that others block: how many there are. */
+    private int findBlocks(Part p, int number, int axis) {
         int blocks = 0;
         for (int i = 0; i < made; i++) {
             Part q = row[i];
-            if (q != null && q != p && !areFree(p.kind, q.kind) && noteBlock(p, q, axis, blocks)) {
+            if (q != null && i != number && !areFree(p.kind, q.kind)
+                    && noteBlock(p, q, axis, blocks)) {
                 blocks++;
             }
         }
